@@ -430,6 +430,7 @@ public final class PromisesTest {
         for (int i = 0; i < 8; i++) {
             due("14: layer " + i, x.layer(i), i);
         }
+        due("14: as many layers as there can be", x.rule(-1, 1, 0, 7, -1, -1, 0), 7);
         due("14: a ring with a NOT", x.rule(-1, 0, 0, 7, -1, -1, 0), STATE);
         due("14: as it was", x.layer(7), 7);
         due("14: fact 8", x.layer(8), NONE);
@@ -606,6 +607,14 @@ public final class PromisesTest {
         y.blow(1);
         due("19: by numbers", y.shrink(), 1);
         due("19: the least one went", y.hand(0), 9);
+        BlowSeeker z = keptAndSent(1);
+        z.end(3);
+        z.blow(206);
+        z.blow(33);
+        z.blow(1);
+        z.blow(17);
+        due("19: three are needed", z.shrink(), 3);
+        due("19: the greatest one went", z.hand(0), 33);
     }
 
     /** The loss 4 can go only when 8 has gone: a second pass takes it. */
@@ -689,6 +698,15 @@ public final class PromisesTest {
         due("20: it is the fifth now", x.mend(), 16);
         x.spare(0, -1);
         due("20: and the fourth", x.mend(), 8);
+        BlowSeeker y = new BlowSeeker();
+        for (int i = 0; i < 5; i++) {
+            y.rule(0, 0, i + 1, i, -1, -1, 0);
+            y.spare(i, 100);
+        }
+        y.rule(0, 1, 0, 0, -1, -1, 0);
+        y.first(0, 0, 1);
+        y.promise(0, 0, 0, 5);
+        due("20: all five at the highest price", y.mend(), 31);
     }
 
     private static void count() {

@@ -60,7 +60,8 @@ public final class BlowSeeker {
         boolean owner = host == ALL || isHost(host);
         boolean body = isFact(a) && (b == NOTHING || isFact(b));
         boolean denied = not == NOTHING || isFact(not);
-        if (!owner || kind < NOW || kind > SENT || !isFact(head) || !body || !denied || !isHost(to)) {
+        boolean target = kind != SENT || isHost(to);
+        if (!owner || kind < NOW || kind > SENT || !isFact(head) || !body || !denied || !target) {
             return NONE;
         }
         if (kind != SENT && to != 0) {

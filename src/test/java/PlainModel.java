@@ -35,7 +35,7 @@ final class PlainModel {
     int rule(int host, int kind, int head, int a, int b, int not, int to) {
         if (host < -1 || host > 3 || kind < 0 || kind > 2) return NONE;
         if (head < 0 || head > 7 || a < 0 || a > 7 || b < -1 || b > 7 || not < -1 || not > 7) return NONE;
-        if (to < 0 || to > 3) return NONE;
+        if (kind == 2 && (to < 0 || to > 3)) return NONE;
         if (kind != 2 && to != 0) return BAD;
         List<int[]> more = new ArrayList<>(rules);
         more.add(new int[] {host, kind, head, a, b, not, to, -1});

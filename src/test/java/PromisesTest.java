@@ -97,6 +97,14 @@ public final class PromisesTest {
         due("3: to 4 of SENT", x.rule(0, 2, 1, 0, -1, -1, 4), NONE);
         due("3: to 1 of NOW", x.rule(0, 0, 1, 0, -1, -1, 1), BAD);
         due("3: to 3 of KEPT", x.rule(0, 1, 1, 0, -1, -1, 3), BAD);
+        for (int to : new int[] {Integer.MIN_VALUE, -2, -1, 4, 5, Integer.MAX_VALUE}) {
+            due("3: to " + to + " of NOW", x.rule(0, 0, 1, 0, -1, -1, to), BAD);
+            due("3: to " + to + " of KEPT", x.rule(-1, 1, 1, 0, 2, 3, to), BAD);
+            due("3: to " + to + " of SENT", x.rule(0, 2, 1, 0, -1, -1, to), NONE);
+            due("3: NONE ahead of BAD, to " + to, x.rule(4, 0, 1, 0, -1, -1, to), NONE);
+            due("3: no such kind, to " + to, x.rule(0, 3, 1, 0, -1, -1, to), NONE);
+            due("3: BAD ahead of STATE, to " + to, x.rule(0, 0, 1, 0, -1, 1, to), BAD);
+        }
         due("3: NONE ahead of BAD", x.rule(0, 1, 8, 0, -1, -1, 3), NONE);
         due("3: BAD ahead of STATE", x.rule(0, 0, 1, 0, -1, 1, 3), BAD);
         due("3: none came of these", x.count(0), 0);
